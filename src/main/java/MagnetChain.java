@@ -273,7 +273,7 @@ public final class MagnetChain {
         int up = most / step;
         int area = 0;
         int pointsAtZero = 0;
-        int firstTurned = NONE;
+        int firstWithout = NONE;
         int turns = 0;
         int points = 0;
         for (int k = 0; k <= 5 * up; k++) {
@@ -290,14 +290,14 @@ public final class MagnetChain {
             if (k == 2 * up) {
                 pointsAtZero = points;
             }
-            if (isDown && points <= 0 && firstTurned == NONE) {
-                firstTurned = copy.strength;
+            if (isDown && points <= 0 && firstWithout == NONE) {
+                firstWithout = copy.strength;
             }
         }
         switch (what) {
             case 0: return area;
             case 1: return pointsAtZero;
-            case 2: return firstTurned;
+            case 2: return firstWithout;
             case 3: return turns;
             default: return points;
         }

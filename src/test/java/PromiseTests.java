@@ -45,6 +45,7 @@ public final class PromiseTests {
         keep();
         back();
         wrongCallsChangeNothing();
+        fullChain();
         due.end("PromiseTests");
     }
 
@@ -437,6 +438,23 @@ public final class PromiseTests {
         due.is("work behind undo()", x.told(WORK), 0);
         due.is("pushes behind undo()", x.told(PUSHES), 0);
         due.is("log behind undo()", x.log(0, 0), NONE);
+        x.push(3, -2);
+        x.begin(4);
+        x.push(1, 2);
+        x.undo();
+        x.undo();
+        logIsOfTwoTurns("undo()", x);
+    }
+
+    /** The log of push(3, -2), behind which it was overwritten by other turns. */
+    private static void logIsOfTwoTurns(String call, MagnetChain x) {
+        due.is("log(0, 0) behind " + call, x.log(0, 0), 3);
+        due.is("log(0, 1) behind " + call, x.log(0, 1), 1);
+        due.is("log(0, 2) behind " + call, x.log(0, 2), 660);
+        due.is("log(1, 0) behind " + call, x.log(1, 0), 3);
+        due.is("log(1, 1) behind " + call, x.log(1, 1), 1);
+        due.is("log(1, 2) behind " + call, x.log(1, 2), 1540);
+        due.is("log(2, 0) behind " + call, x.log(2, 0), NONE);
     }
 
     private static void told() {
@@ -455,6 +473,9 @@ public final class PromiseTests {
         due.is("told(14)", x.told(LENGTH), 8);
         due.is("told(15)", x.told(UNDOABLE), 6);
         due.is("told(2)", x.told(WORK), 6400);
+        due.is("told(11) of 0111", still("0111").told(WALLS), 1);
+        due.is("told(11) of 1110", still("1110").told(WALLS), 1);
+        due.is("told(11) of 5", still("5").told(WALLS), 0);
         x.set(STRENGTH, 3);
         due.is("told(1) in a field", x.told(ENERGY), -3 * 10 * (10 + 10 + 7 + 7 + 0));
         x.set(SIDE, 1);
@@ -487,6 +508,16 @@ public final class PromiseTests {
         due.is("magnet(1, 3) to 2", x.magnet(1, 3), 9 * (-140 + 70 - 0 - 100));
         due.is("magnet(1, 4) to 0", x.magnet(1, 4), 9 * (-140 + 70 + 200 - 0));
         due.is("magnet(0, 4) to 7", x.magnet(0, 4), 9 * -140 - (9 * -147 - 70));
+        x = still("0002!");
+        int[] couplings = {7, 8, 9, 15, 16};
+        int[] eighths = {0, 1, 1, 1, 2};
+        for (int k = 0; k < couplings.length; k++) {
+            x.set(COUPLING, couplings[k]);
+            due.is("told(1), coupling " + couplings[k], x.told(ENERGY), couplings[k] * -400 + eighths[k] * -200);
+            due.is("magnet(2, 5), coupling " + couplings[k], x.magnet(2, 5), couplings[k] * -200 + eighths[k] * -200);
+            due.is("magnet(0, 5), coupling " + couplings[k], x.magnet(0, 5), couplings[k] * -200 + eighths[k] * -200);
+            due.is("magnet(3, 3), coupling " + couplings[k], x.magnet(3, 3), couplings[k] * -140 + eighths[k] * -140);
+        }
     }
 
     /** The pulls of all pairs of angles, as a chain of two tells them. */
@@ -626,9 +657,25 @@ public final class PromiseTests {
         due.is("turns behind loops", x.told(TURNS), 0);
         due.is("heat behind loops", x.told(HEAT), 0);
         due.is("told(15) behind loops", x.told(UNDOABLE), 1);
+        for (int what = 0; what < 5; what++) {
+            due.is("loop(10, 5, " + what + ")", x.loop(10, 5, what), small[what]);
+            due.is("loop(1, 1, " + what + ")", x.loop(1, 1, what), small[what]);
+        }
         x.set(SIDE, 4);
         due.is("loop(100, 100, 4) to the other side", x.loop(100, 100, 4), 10);
         due.is("loop(100, 100, 3) to the other side", x.loop(100, 100, 3), 12);
+        x = still("2!");
+        due.is("loop(100, 10, 2) with 0 points at once", x.loop(100, 10, 2), 90);
+        due.is("loop(100, 100, 2) with 0 points at once", x.loop(100, 100, 2), 0);
+        due.is("loop(100, 100, 1) with 0 points", x.loop(100, 100, 1), 0);
+        x = still("3!");
+        due.is("loop(100, 10, 2) with fewer points at once", x.loop(100, 10, 2), 90);
+        due.is("loop(100, 10, 1) with fewer points", x.loop(100, 10, 1), -7);
+        due.is("loop(100, 10, 4) with fewer points", x.loop(100, 10, 4), -7);
+        x = still("1!");
+        due.is("loop(100, 10, 2) with more points", x.loop(100, 10, 2), NONE);
+        due.is("loop(100, 10, 2) with 1 point", still("1!1!1!4!4!").loop(100, 10, 2), NONE);
+        due.is("loop(100, 10, 2) with -1 points", still("5!5!5!0!0!").loop(100, 10, 2), 90);
     }
 
     /** The same way, gone by calls of set(): at strength 0 the side can be changed without any turn. */
@@ -866,6 +913,18 @@ public final class PromiseTests {
         x.goal(0, 1);
         due.is("back(0) a third time", x.back(0), 4);
         due.is("goal of the image", x.magnet(0, 2), NONE);
+        x = new MagnetChain();
+        x.push(3, -2);
+        x.keep(1);
+        x.begin(4);
+        x.push(1, 1);
+        x.push(2, 3);
+        x.back(1);
+        logIsOfTwoTurns("back(1)", x);
+        x.begin(3);
+        x.push(1, 3);
+        x.back(1);
+        logIsOfTwoTurns("back(1) again", x);
     }
 
     private static void wrongCallsChangeNothing() {
@@ -893,5 +952,46 @@ public final class PromiseTests {
         for (int what = 0; what < 16; what++) {
             due.is("told(" + what + ") behind wrong calls", x.told(what), before[what]);
         }
+    }
+
+    /** With ten magnets every row is full. */
+    private static void fullChain() {
+        MagnetChain x = still("0!1!2!3!4!5!6!7!0!1!");
+        due.is("told(13) of ten", x.told(HELD), 10);
+        due.is("told(11) of ten", x.told(WALLS), 9);
+        due.is("told(12) of ten", x.told(MISSED), 0);
+        due.is("points(0) of ten", x.points(0), 17);
+        due.is("solve(3, 0) of ten", x.solve(3, 0), 0);
+        x.goal(9, 2);
+        due.is("solve(2, 0) of ten held ones", x.solve(2, 0), NONE);
+        x.hold(9, 0);
+        due.is("solve(2, 0) of ten", x.solve(2, 0), 1);
+        due.is("solve(2, 1) of ten", x.solve(2, 1), 9);
+        due.is("solve(2, 2) of ten", x.solve(2, 2), 1);
+        x.goal(9, 7);
+        due.is("solve(3, 0) of ten", x.solve(3, 0), 2);
+        due.is("solve(3, 1) of ten", x.solve(3, 1), 9);
+        due.is("solve(3, 2) of ten", x.solve(3, 2), -1);
+        x.goal(9, 5);
+        due.is("solve(3, 0) too far", x.solve(3, 0), NONE);
+        due.is("loop(20, 10, 3) of ten", x.loop(20, 10, 3), 0);
+        due.is("moved(9, 4) of ten", x.moved(9, 4), 0);
+        due.is("push(9, 4) of ten", x.push(9, 4), 0);
+        due.is("told(12) behind it", x.told(MISSED), 0);
+        due.is("shed() of ten without coupling", x.shed(), 0);
+        due.is("reverse() of ten", x.reverse(), 10);
+        angles("reverse() of ten", x, "7456701234");
+        due.is("its goal", x.magnet(0, 2), 7);
+        due.is("remove(9) of ten", x.remove(9), 4);
+        angles("remove(9)", x, "745670123");
+        due.is("insert(0, 3)", x.insert(0, 3), 10);
+        due.is("remove(0) of ten", x.remove(0), 3);
+        angles("remove(0)", x, "745670123");
+        due.is("insert(9, 3)", x.insert(9, 3), 10);
+        angles("insert(9, 3)", x, "7456701233");
+        due.is("keep(0) of ten", x.keep(0), 10);
+        due.is("begin(1)", x.begin(1), 10);
+        due.is("back(0)", x.back(0), 10);
+        angles("back(0)", x, "7456701233");
     }
 }
