@@ -49,23 +49,6 @@ public final class PromiseTests {
         due.end("PromiseTests");
     }
 
-    /** A chain that never turns of itself, so that what is put in stays as it is. */
-    private static MagnetChain still(String text) {
-        MagnetChain x = new MagnetChain();
-        x.set(COUPLING, 0);
-        x.set(DEPTH, 2000);
-        type(x, text);
-        x.load();
-        return x;
-    }
-
-    private static void type(MagnetChain x, String text) {
-        x.wipe();
-        for (int i = 0; i < text.length(); i++) {
-            x.write(text.charAt(i));
-        }
-    }
-
     private static void angles(String call, MagnetChain x, String want) {
         due.is("told(0) behind " + call, x.told(N), want.length());
         for (int i = 0; i < want.length(); i++) {
@@ -151,7 +134,7 @@ public final class PromiseTests {
         due.is("its work", x.told(WORK), 1540);
         due.is("its heat", x.told(HEAT), 3740);
         due.is("its turns", x.told(TURNS), 3);
-        x = still("123");
+        x = Chains.still("123");
         x.hold(1, 1);
         x.goal(1, 5);
         x.goal(2, 6);
@@ -182,7 +165,7 @@ public final class PromiseTests {
         due.is("remove(3)", x.remove(3), 0);
         due.is("its work", x.told(WORK), 2200);
         due.is("energy behind it", x.told(ENERGY), -4200);
-        x = still("1!23!4");
+        x = Chains.still("1!23!4");
         x.goal(2, 7);
         due.is("remove(1)", x.remove(1), 2);
         angles("remove(1)", x, "134");
@@ -201,7 +184,7 @@ public final class PromiseTests {
     }
 
     private static MagnetChain weak(String text) {
-        MagnetChain x = still(text);
+        MagnetChain x = Chains.still(text);
         x.set(COUPLING, 1);
         return x;
     }
@@ -230,7 +213,7 @@ public final class PromiseTests {
     }
 
     private static void shedCountsNeighborsOnly() {
-        MagnetChain x = still("024");
+        MagnetChain x = Chains.still("024");
         x.set(COUPLING, 8);
         due.is("turns in 024", x.told(TURNS), 0);
         due.is("shed() of 024", x.shed(), 0);
@@ -238,7 +221,7 @@ public final class PromiseTests {
     }
 
     private static void reverse() {
-        MagnetChain x = still("01!23");
+        MagnetChain x = Chains.still("01!23");
         x.goal(0, 7);
         x.goal(3, 4);
         due.is("reverse() of 0123", x.reverse(), 4);
@@ -249,17 +232,17 @@ public final class PromiseTests {
         due.is("goal 1", x.magnet(1, 2), NONE);
         due.is("goal 3", x.magnet(3, 2), 5);
         due.is("told(15) behind reverse()", x.told(UNDOABLE), 6);
-        x = still("2");
+        x = Chains.still("2");
         due.is("reverse() of 2", x.reverse(), 0);
-        x = still("04");
+        x = Chains.still("04");
         due.is("reverse() of 04", x.reverse(), 0);
-        x = still("567");
+        x = Chains.still("567");
         due.is("reverse() of 567", x.reverse(), 0);
         angles("reverse() of 567", x, "567");
-        x = still("566");
+        x = Chains.still("566");
         due.is("reverse() of 566", x.reverse(), 2);
         angles("reverse() of 566", x, "667");
-        x = still("0");
+        x = Chains.still("0");
         x.set(DEPTH, 0);
         x.set(STRENGTH, 1);
         due.is("reverse() in a field", x.reverse(), 1);
@@ -412,7 +395,7 @@ public final class PromiseTests {
         }
         x.keep(0);
         x.begin(2);
-        type(x, "8");
+        Chains.type(x, "8");
         x.load();
         x.keep(1);
         due.is("undo()", x.undo(), 3);
@@ -458,7 +441,7 @@ public final class PromiseTests {
     }
 
     private static void told() {
-        MagnetChain x = still("0!01 12!");
+        MagnetChain x = Chains.still("0!01 12!");
         due.is("told(-1)", x.told(-1), BAD);
         due.is("told(16)", x.told(16), BAD);
         due.is("told(least)", x.told(LEAST), BAD);
@@ -473,9 +456,9 @@ public final class PromiseTests {
         due.is("told(14)", x.told(LENGTH), 8);
         due.is("told(15)", x.told(UNDOABLE), 6);
         due.is("told(2)", x.told(WORK), 6400);
-        due.is("told(11) of 0111", still("0111").told(WALLS), 1);
-        due.is("told(11) of 1110", still("1110").told(WALLS), 1);
-        due.is("told(11) of 5", still("5").told(WALLS), 0);
+        due.is("told(11) of 0111", Chains.still("0111").told(WALLS), 1);
+        due.is("told(11) of 1110", Chains.still("1110").told(WALLS), 1);
+        due.is("told(11) of 5", Chains.still("5").told(WALLS), 0);
         x.set(STRENGTH, 3);
         due.is("told(1) in a field", x.told(ENERGY), -3 * 10 * (10 + 10 + 7 + 7 + 0));
         x.set(SIDE, 1);
@@ -483,7 +466,7 @@ public final class PromiseTests {
     }
 
     private static void magnet() {
-        MagnetChain x = still("01!2");
+        MagnetChain x = Chains.still("01!2");
         due.is("magnet(-1, 0)", x.magnet(-1, 0), BAD);
         due.is("magnet(3, 0)", x.magnet(3, 0), BAD);
         due.is("magnet(0, -1)", x.magnet(0, -1), BAD);
@@ -508,7 +491,7 @@ public final class PromiseTests {
         due.is("magnet(1, 3) to 2", x.magnet(1, 3), 9 * (-140 + 70 - 0 - 100));
         due.is("magnet(1, 4) to 0", x.magnet(1, 4), 9 * (-140 + 70 + 200 - 0));
         due.is("magnet(0, 4) to 7", x.magnet(0, 4), 9 * -140 - (9 * -147 - 70));
-        x = still("0002!");
+        x = Chains.still("0002!");
         int[] couplings = {7, 8, 9, 15, 16};
         int[] eighths = {0, 1, 1, 1, 2};
         for (int k = 0; k < couplings.length; k++) {
@@ -569,7 +552,7 @@ public final class PromiseTests {
 
     /** The greatest first, of equals the lower magnet, and of its two turns the one with the direction 1. */
     private static void settlingOrder() {
-        MagnetChain x = still("413");
+        MagnetChain x = Chains.still("413");
         x.set(DEPTH, 300);
         due.is("turns in a field", x.set(STRENGTH, 11), 8);
         int[] magnets = {2, 2, 0, 0, 0, 0, 1, 2};
@@ -590,7 +573,7 @@ public final class PromiseTests {
         }
         due.is("points(-1)", x.points(-1), BAD);
         due.is("points(8)", x.points(8), BAD);
-        x = still("0125");
+        x = Chains.still("0125");
         due.is("points(0) of 0125", x.points(0), 10 + 7 + 0 - 7);
         due.is("points(3) of 0125", x.points(3), -7 + 0 + 7 + 0);
     }
@@ -622,7 +605,7 @@ public final class PromiseTests {
         x.hold(0, 1);
         due.is("moved(0, 1) of a held one", x.moved(0, 1), STATE);
         due.is("moved(0, 9) of a held one", x.moved(0, 9), BAD);
-        x = still("07");
+        x = Chains.still("07");
         due.is("moved(1, 3)", x.moved(1, 3), 0);
         angles("moved()", x, "07");
     }
@@ -664,18 +647,18 @@ public final class PromiseTests {
         x.set(SIDE, 4);
         due.is("loop(100, 100, 4) to the other side", x.loop(100, 100, 4), 10);
         due.is("loop(100, 100, 3) to the other side", x.loop(100, 100, 3), 12);
-        x = still("2!");
+        x = Chains.still("2!");
         due.is("loop(100, 10, 2) with 0 points at once", x.loop(100, 10, 2), 90);
         due.is("loop(100, 100, 2) with 0 points at once", x.loop(100, 100, 2), 0);
         due.is("loop(100, 100, 1) with 0 points", x.loop(100, 100, 1), 0);
-        x = still("3!");
+        x = Chains.still("3!");
         due.is("loop(100, 10, 2) with fewer points at once", x.loop(100, 10, 2), 90);
         due.is("loop(100, 10, 1) with fewer points", x.loop(100, 10, 1), -7);
         due.is("loop(100, 10, 4) with fewer points", x.loop(100, 10, 4), -7);
-        x = still("1!");
+        x = Chains.still("1!");
         due.is("loop(100, 10, 2) with more points", x.loop(100, 10, 2), NONE);
-        due.is("loop(100, 10, 2) with 1 point", still("1!1!1!4!4!").loop(100, 10, 2), NONE);
-        due.is("loop(100, 10, 2) with -1 points", still("5!5!5!0!0!").loop(100, 10, 2), 90);
+        due.is("loop(100, 10, 2) with 1 point", Chains.still("1!1!1!4!4!").loop(100, 10, 2), NONE);
+        due.is("loop(100, 10, 2) with -1 points", Chains.still("5!5!5!0!0!").loop(100, 10, 2), 90);
     }
 
     /** The same way, gone by calls of set(): at strength 0 the side can be changed without any turn. */
@@ -708,7 +691,7 @@ public final class PromiseTests {
     }
 
     private static void solve() {
-        MagnetChain x = still("0");
+        MagnetChain x = Chains.still("0");
         due.is("solve(-1, 0)", x.solve(-1, 0), BAD);
         due.is("solve(4, 0)", x.solve(4, 0), BAD);
         due.is("solve(0, -1)", x.solve(0, -1), BAD);
@@ -741,7 +724,7 @@ public final class PromiseTests {
     }
 
     private static void solveTakesTheFirstWay() {
-        MagnetChain x = still("000");
+        MagnetChain x = Chains.still("000");
         x.goal(1, 1);
         x.goal(2, 7);
         due.is("solve(3, 0)", x.solve(3, 0), 2);
@@ -752,7 +735,7 @@ public final class PromiseTests {
         due.is("solve(1, 1)", x.solve(1, 1), 2);
         due.is("solve(1, 2)", x.solve(1, 2), -1);
         // A push by one detent falls on to the third side: either direction needs one more push to the fourth.
-        x = still("0");
+        x = Chains.still("0");
         x.set(DEPTH, 300);
         x.set(SIDE, 4);
         x.set(STRENGTH, 10);
@@ -789,12 +772,12 @@ public final class PromiseTests {
     private static void wipe() {
         MagnetChain x = new MagnetChain();
         due.is("wipe() of nothing", x.wipe(), 0);
-        type(x, "12 3");
+        Chains.type(x, "12 3");
         due.is("wipe()", x.wipe(), 4);
         due.is("told(14)", x.told(LENGTH), 0);
         due.is("wipe() again", x.wipe(), 0);
         due.is("told(15)", x.told(UNDOABLE), 0);
-        type(x, "5");
+        Chains.type(x, "5");
         due.is("load() behind wipe()", x.load(), 1);
     }
 
@@ -805,7 +788,7 @@ public final class PromiseTests {
         x.push(1, 1);
         x.goal(0, 3);
         x.hold(3, 1);
-        type(x, "  7!6 5!  01 ");
+        Chains.type(x, "  7!6 5!  01 ");
         due.is("load()", x.load(), 5);
         angles("load()", x, "76501");
         int[] held = {1, 0, 1, 0, 0};
@@ -819,11 +802,11 @@ public final class PromiseTests {
         // U(7, 6) = 70, U(6, 5) = 70, U(5, 0) = 140, U(0, 1) = -140
         due.is("energy", x.told(ENERGY), 140);
         due.is("work", x.told(WORK), 140 + 6400);
-        type(x, "0!1!2!3!4!5!6!7!0!1!                    ");
+        Chains.type(x, "0!1!2!3!4!5!6!7!0!1!                    ");
         due.is("load() of 40 bytes", x.load(), 10);
         due.is("told(13)", x.told(HELD), 10);
         x = new MagnetChain();
-        type(x, "04");
+        Chains.type(x, "04");
         due.is("load() that settles", x.load(), 2);
         due.is("its turns", x.told(TURNS), 4);
         due.is("its heat", x.told(HEAT), 4000);
@@ -836,7 +819,7 @@ public final class PromiseTests {
         int[] places = {0, 1, 5, 0, 0, 0, 0, 0, 1, 2, 2, 3, 11, 10, 11, 10, 2, 1, 25};
         for (int k = 0; k < texts.length; k++) {
             MagnetChain x = new MagnetChain();
-            type(x, texts[k]);
+            Chains.type(x, texts[k]);
             due.is("load() of \"" + texts[k] + "\"", x.load(), STATE);
             due.is("fault(0) of \"" + texts[k] + "\"", x.fault(0), kinds[k]);
             due.is("fault(1) of \"" + texts[k] + "\"", x.fault(1), places[k]);
@@ -849,15 +832,15 @@ public final class PromiseTests {
         MagnetChain x = new MagnetChain();
         due.is("fault(-1)", x.fault(-1), BAD);
         due.is("fault(2)", x.fault(2), BAD);
-        type(x, "1");
+        Chains.type(x, "1");
         x.load();
         due.is("fault(0) behind a good load()", x.fault(0), NONE);
-        type(x, "11x");
+        Chains.type(x, "11x");
         x.load();
         due.is("fault(0)", x.fault(0), 1);
         due.is("fault(1)", x.fault(1), 2);
         due.is("fault(2) with a fault", x.fault(2), BAD);
-        type(x, "1");
+        Chains.type(x, "1");
         x.load();
         x.begin(3);
         due.is("fault(0) behind another load()", x.fault(0), 1);
@@ -893,7 +876,7 @@ public final class PromiseTests {
         x.hold(1, 1);
         x.goal(2, 6);
         x.keep(0);
-        type(x, "77");
+        Chains.type(x, "77");
         x.set(DEPTH, 2000);
         x.load();
         x.push(1, 1);
@@ -956,7 +939,7 @@ public final class PromiseTests {
 
     /** With ten magnets every row is full. */
     private static void fullChain() {
-        MagnetChain x = still("0!1!2!3!4!5!6!7!0!1!");
+        MagnetChain x = Chains.still("0!1!2!3!4!5!6!7!0!1!");
         due.is("told(13) of ten", x.told(HELD), 10);
         due.is("told(11) of ten", x.told(WALLS), 9);
         due.is("told(12) of ten", x.told(MISSED), 0);
