@@ -511,7 +511,8 @@ public final class DescriptionTests {
     private static void signsBehindTenMagnets() {
         String ten = "0123456701";
         for (char sign = 32; sign <= 126; sign++) {
-            reads(ten + sign, isDigit(sign) ? "fault 2 at 10" : sign == ' ' ? ten : sign == '!' ? ten + "!" : "fault 1 at 10");
+            String behind = sign == ' ' ? ten : sign == '!' ? ten + "!" : "fault 1 at 10";
+            reads(ten + sign, isDigit(sign) ? "fault 2 at 10" : behind);
             reads(ten + " " + sign, isDigit(sign) ? "fault 2 at 11" : sign == ' ' ? ten : "fault 1 at 11");
             reads(ten + "!" + sign, isDigit(sign) ? "fault 2 at 11" : sign == ' ' ? ten + "!" : "fault 1 at 11");
         }
