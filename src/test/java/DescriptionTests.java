@@ -311,7 +311,7 @@ public final class DescriptionTests {
     }
 
     /**
-     * "or 200 turns were done in this settling". No chain of the document's ranges gets there (the longest settling
+     * "or 200 turns were done in this settling". No chain is known that gets there (the longest settling
      * that a search of whole chains of ten found has some 60 turns); so the depth is made negative from behind:
      * then there is always a turn that frees more.
      */
