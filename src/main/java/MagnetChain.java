@@ -246,7 +246,9 @@ public final class MagnetChain {
     }
 
     public float mean() {
-        return (float) present.chain.energy() / (float) present.chain.size;
+        int n = present.chain.size;
+        // No chain is empty; the divisor is looked at all the same, as no division may answer NaN.
+        return n > 0 ? (float) present.chain.energy() / (float) n : 0.0f;
     }
 
     // ---- what if: everything happens in a copy

@@ -52,6 +52,7 @@ public final class DescriptionTests {
         eachChangeDropsTheOldest();
         undoRestores();
         undoLeaves();
+        divisorsAreLookedAt();
         due.end("DescriptionTests");
     }
 
@@ -714,5 +715,13 @@ public final class DescriptionTests {
         x.begin(5);
         x.undo();
         due.is("told(14) behind wipe() and undo()", x.told(14), 0);
+    }
+
+    /** LANGUAGE.md, rules 3 and 7: no division answers NaN, even if the chain is made empty from behind. */
+    private static void divisorsAreLookedAt() throws ReflectiveOperationException {
+        MagnetChain x = new MagnetChain();
+        setFromBehind(x, "size", 0);
+        due.is("mean() of no magnet", x.mean(), 0.0f);
+        due.is("loop(1, 0, 0)", x.loop(1, 0, 0), BAD);
     }
 }

@@ -6,7 +6,7 @@ public final class EdgeTests {
     private static final int STATE = -1000000002, FULL = -1000000003, NONE = -1000000009;
     private static final int COUPLING = 0, DEPTH = 1, STRENGTH = 2, SIDE = 3;
     private static final int ENERGY = 1, WORK = 2, HEAT = 3, TURNS = 8, PUSHES = 9, LOGGED = 10;
-    private static final int WALLS = 11, HELD = 13, LENGTH = 14, UNDOABLE = 15;
+    private static final int WALLS = 11, MISSED = 12, HELD = 13, LENGTH = 14, UNDOABLE = 15;
 
     private static final Due due = new Due();
 
@@ -50,6 +50,7 @@ public final class EdgeTests {
         solvePastHeldOnes();
         solveGoesRound();
         solveTheLowerMagnetFirst();
+        solveIsLikePushing();
         writeUpToForty();
         wipeToNone();
         loadOneAndTen();
@@ -733,6 +734,52 @@ public final class EdgeTests {
         solves("a fall to the other side", x, 3, 1, 0, 1);
         x.goal(0, 0);
         solves("a fall and a push", x, 3, 2, 0, 1);
+    }
+
+    /** All goals of the first two magnets, each asked of solve() and tried by push() and undo(). */
+    private static void solveIsLikePushing() {
+        String[] texts = {"0", "05", "24!6", "3!017", "6175"};
+        for (String text : texts) {
+            for (int goals = 0; goals < 64; goals++) {
+                MagnetChain x = Chains.loaded(text, 2, 150);
+                x.set(SIDE, 3);
+                x.set(STRENGTH, 4);
+                x.goal(0, goals % 8);
+                x.goal(x.told(0) - 1, goals / 8);
+                int[] way = shortestWay(x);
+                solves(text + " to " + Chains.goals(x), x, 3, way[0], way[1], way[2]);
+            }
+        }
+    }
+
+    /** The number of pushes, the magnet and the direction of the first one, NONE where there is none. */
+    private static int[] shortestWay(MagnetChain x) {
+        for (int pushes = 0; pushes <= 3; pushes++) {
+            int[] first = firstOfWay(x, pushes);
+            if (first != null) {
+                return new int[] {pushes, first[0], first[1]};
+            }
+        }
+        return new int[] {NONE, NONE, NONE};
+    }
+
+    private static int[] firstOfWay(MagnetChain x, int pushes) {
+        if (pushes == 0) {
+            return x.told(MISSED) == 0 ? new int[] {NONE, NONE} : null;
+        }
+        for (int i = 0; i < x.told(0); i++) {
+            for (int direction = 1; direction >= -1; direction -= 2) {
+                if (x.push(i, direction) == STATE) {
+                    continue;
+                }
+                boolean isWay = firstOfWay(x, pushes - 1) != null;
+                x.undo();
+                if (isWay) {
+                    return new int[] {i, direction};
+                }
+            }
+        }
+        return null;
     }
 
     // ---- 20 to 25
